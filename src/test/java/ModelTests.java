@@ -2,7 +2,7 @@ import java.util.Random;
 
 /** Long random runs of calls, from fixed seeds, of which each answer must be that of NaiveJoinOrder. */
 public final class ModelTests {
-    private static final int RUNS = 700;
+    private static final int RUNS = 500;
     private static final int CALLS = 512;
     private static final int[] BAD = {
         Integer.MIN_VALUE, -100, -10, -9, -8, -5, -4, -3, -2, -1, 0, 1, 2, 3, 4, 7, 8, 9, 31, 32, 33, 79, 80, 81, 100,
