@@ -249,6 +249,7 @@ public final class JoinOrder {
         private final int[] matches = new int[MOST_PATTERNS * MOST_TRIPLES];
         private final int[] matchCount = new int[MOST_PATTERNS];
         private final int[] variables = new int[MOST_PATTERNS];
+        private final int[] havingVariable = new int[VARIABLES];
         private final int[] told = new int[MOST_PATTERNS];
         private final int[] parent = new int[MOST_PATTERNS];
         private final int[] allBefore = new int[MOST_PATTERNS];
@@ -299,6 +300,7 @@ public final class JoinOrder {
             slots[p * PLACES + place] = slot;
             if (slot < 0) {
                 variables[p] |= 1 << indexOf(slot);
+                havingVariable[indexOf(slot)] |= 1 << p;
             }
         }
 
@@ -506,7 +508,6 @@ public final class JoinOrder {
     /** Finds THE PLAN: which PATTERNS may come next, and at what COST, hangs on the set before, not on its order. */
     private static final class Planner {
         private final int[] spreads = new int[MOST_PATTERNS * VARIABLES];
-        private final int[] havingVariable = new int[VARIABLES];
         private final int[] sizes = new int[MOST_PATTERNS];
         private final long[] estimates = new long[SETS];
         private final long[] costAhead = new long[SETS];
@@ -525,15 +526,11 @@ public final class JoinOrder {
         }
 
         private void measure(Patterns patterns) {
-            for (int v = 0; v < VARIABLES; v++) {
-                havingVariable[v] = 0;
-            }
             for (int p = 0; p < patterns.count; p++) {
                 sizes[p] = patterns.size(p);
                 for (int place = 0; place < PLACES; place++) {
                     int slot = patterns.slot(p, place);
                     if (slot < 0) {
-                        havingVariable[indexOf(slot)] |= 1 << p;
                         spreads[p * VARIABLES + indexOf(slot)] = patterns.spreadAt(p, place);
                     }
                 }
@@ -545,13 +542,13 @@ public final class JoinOrder {
             int required = patterns.required;
             for (int set = required; set >= 0; set--) {
                 if ((set & ~required) == 0) {
-                    estimates[set] = estimateOf(set);
+                    estimates[set] = estimateOf(set, patterns);
                     costAhead[set] = leastCostAhead(set, patterns);
                 }
             }
         }
 
-        private long estimateOf(int set) {
+        private long estimateOf(int set, Patterns patterns) {
             long rows = 1;
             for (int p = 0; p < MOST_PATTERNS; p++) {
                 if (inSet(set, p)) {
@@ -559,7 +556,7 @@ public final class JoinOrder {
                 }
             }
             for (int v = 0; v < VARIABLES; v++) {
-                rows = dividedBySpreads(rows, v, set & havingVariable[v]);
+                rows = dividedBySpreads(rows, v, set & patterns.havingVariable[v]);
             }
             return rows;
         }

@@ -31,6 +31,8 @@ public final class PromiseTests {
         rows();
         plainOnes();
         keeps();
+        keepsInAnyOrder();
+        allFull();
         System.out.println("PromiseTests: " + right + " answers as due, " + wrong + " not");
         if (wrong != 0) {
             System.exit(1);
@@ -325,6 +327,15 @@ public final class PromiseTests {
     }
 
     private static void hintsThroughOthers() {
+        JoinOrder y = new JoinOrder();
+        for (int i = 0; i < 5; i++) {
+            y.pattern(-1, i, -2);
+        }
+        y.hint(0, 1);
+        y.hint(2, 3);
+        due("4: an earlier hint tells of it", y.optional(0, 4), -3);
+        due("4: an earlier hint tells of it", y.optional(1, 4), -3);
+        due("4: no hint does", y.optional(4, 0), 1);
         JoinOrder x = new JoinOrder();
         for (int i = 0; i < 6; i++) {
             x.pattern(-1, i, -2);
@@ -555,6 +566,16 @@ public final class PromiseTests {
         due("10: no such step", x.estimate(4), -1);
         due("10: no such step", x.estimate(-1), -1);
         due("10: no such step", x.estimate(Integer.MIN_VALUE), -1);
+        // Spreads of -1: 5, 2, 3, in every order of the numbers: 5 and 3 divide.
+        int[][] orders = {{0, 1, 2}, {0, 2, 1}, {1, 0, 2}, {1, 2, 0}, {2, 0, 1}, {2, 1, 0}};
+        for (int[] order : orders) {
+            x = withTriples(0, 0, 0, 1, 0, 0, 2, 0, 0, 3, 0, 0, 4, 0, 0, 0, 1, 0, 1, 1, 0, 0, 2, 0, 1, 2, 0, 2, 2, 0);
+            for (int predicate : order) {
+                x.cost(x.pattern(-1, predicate, 0), 50);
+            }
+            x.plan();
+            due("10: all but the least, 125000 / 15", x.estimate(2), 8334);
+        }
         x = withTriples(0, 0, 0, 1, 0, 1, 2, 0, 2);
         x.pattern(-1, 0, -1);
         x.pattern(-1, 0, -2);
@@ -617,6 +638,14 @@ public final class PromiseTests {
         due("11: not safe", x.move(2), 2);
         due("11: an optional one has it", x.move(3), 2);
         due("11: none has it", x.move(4), 2);
+        x.cost(0, 0);
+        x.cost(1, 5);
+        dueOrder("11: the other way", x, 0, 1, 2);
+        due("11: planned anew", x.move(0), 0);
+        due("11: planned anew", x.move(1), 0);
+        due("9: planned anew", x.step(0, 2), 2);
+        due("9: planned anew", x.step(1, 2), 0);
+        due("9: planned anew", x.step(2, 2), 3);
         due("11: no such filter", x.move(5), -1);
         due("11: no such filter", x.move(Integer.MAX_VALUE), -1);
     }
@@ -642,6 +671,16 @@ public final class PromiseTests {
         dueRow("12: in the other order", x, 2, 1, 3, 8);
         dueRow("12: in the other order", x, 3, 1, 2, 7);
         dueRow("12: in the other order", x, 4, 4, 2, 7);
+        x.pattern(-3, 2, -1);
+        x.triple(9, 2, 4);
+        x.triple(7, 2, 1);
+        x.triple(8, 2, 4);
+        due("12: two variables are bound already", x.run(), 2);
+        dueRow("12: two variables are bound already", x, 0, 4, 2, 9);
+        dueRow("12: two variables are bound already", x, 1, 1, 2, 7);
+        x = withTriples(1, 0, 2, 1, 0, 3, 4, 0, 2, 2, 1, 9, 3, 1, 8, 2, 1, 7);
+        x.pattern(-1, 0, -2);
+        x.pattern(-2, 1, -3);
         x.pattern(4, 0, 2);
         due("12: one without variables that is there", x.run(), 5);
         x.pattern(4, 0, 4);
@@ -837,6 +876,61 @@ public final class PromiseTests {
         due("15: no run, and no plain rows", x.keeps(), true);
         x.triple(1, 1, 5);
         due("15: no run, and a plain row", x.keeps(), false);
+    }
+
+    private static void keepsInAnyOrder() {
+        // The run's rows come by their objects, the plain ones by their subjects: both ways of turning them.
+        for (int rows = 2; rows <= 30; rows++) {
+            JoinOrder x = new JoinOrder();
+            for (int i = 0; i < rows; i++) {
+                x.triple(i, 0, 31 - i);
+                x.triple(31 - i * 7 % rows, 1, i);
+            }
+            x.pattern(-1, 0, -2);
+            x.pattern(-2, 1, -3);
+            x.hint(1, 0);
+            due("15: rows", x.run(), rows);
+            due("15: in any order", x.keeps(), true);
+        }
+    }
+
+    /** As much of everything as there is room for. */
+    private static void allFull() {
+        JoinOrder x = new JoinOrder();
+        for (int i = 0; i < 80; i++) {
+            x.triple(i % 16, i / 16, i % 16);
+        }
+        for (int i = 0; i < 8; i++) {
+            x.pattern(-1 - i, i % 5, -1 - (i + 1) % 8);
+        }
+        for (int i = 0; i < 8; i++) {
+            x.filter(-1 - i, i % 2 == 0 ? 3 : 2, i % 2 == 0 ? 5 : 9, i < 4);
+        }
+        due("12: full", x.run(), 3);
+        for (int i = 0; i < 3; i++) {
+            dueRow("12: full", x, i, 6 + i, 6 + i, 6 + i, 6 + i, 6 + i, 6 + i, 6 + i, 6 + i);
+        }
+        due("14: full", x.plain(), 3);
+        due("15: full", x.keeps(), true);
+        for (int i = 0; i < 7; i++) {
+            due("7: full", x.hint(i + 1, i), 1);
+        }
+        due("7: full", x.hint(0, 7), -3);
+        dueOrder("8: full", x, 7, 6, 5, 4, 3, 2, 1, 0);
+        due("12: full, by hints", x.run(), 3);
+        due("15: full, by hints", x.keeps(), true);
+        x = new JoinOrder();
+        for (int i = 0; i < 8; i++) {
+            x.pattern(-1 - i, 0, -1);
+        }
+        for (int i = 0; i < 7; i++) {
+            due("4: full", x.optional(i, i + 1), 1);
+        }
+        due("4: full", x.optional(7, 0), -3);
+        dueOrder("8: full of optional ones", x, 7, 6, 5, 4, 3, 2, 1, 0);
+        x.triple(5, 0, 5);
+        due("12: full of optional ones", x.run(), 1);
+        dueRow("12: full of optional ones", x, 0, 5, 5, 5, 5, 5, 5, 5, 5);
     }
 
     private PromiseTests() {
