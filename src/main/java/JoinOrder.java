@@ -32,6 +32,7 @@ public final class JoinOrder {
     private final Planner planner = new Planner();
     private final Plan made = new Plan();
     private final Table last = new Table();
+    private boolean hasRun;
     private final int[] plainOrder = new int[MOST_PATTERNS];
     private final Table plainOnes = new Table();
 
@@ -144,6 +145,7 @@ public final class JoinOrder {
 
     public int run() {
         planner.arrange(patterns, filters, made);
+        hasRun = true;
         last.start();
         for (int i = 0; i < made.steps; i++) {
             last.join(patterns, made.order[i]);
@@ -171,7 +173,7 @@ public final class JoinOrder {
     }
 
     public boolean keeps() {
-        if (last.crowded) {
+        if (!hasRun || last.crowded) {
             return false;
         }
         makePlainOnes();

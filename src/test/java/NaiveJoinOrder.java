@@ -48,7 +48,8 @@ final class NaiveJoinOrder {
     private final List<Integer> planJoins = new ArrayList<>();
     private final List<Long> planEstimates = new ArrayList<>();
     private final List<Integer> planFilterSteps = new ArrayList<>();
-    private List<Row> lastRows = new ArrayList<>();
+    /** null before any run, and behind one that had no room. */
+    private List<Row> lastRows;
 
     private final Map<Set<Integer>, BigInteger> knownEstimates = new HashMap<>();
     private List<Integer> best;

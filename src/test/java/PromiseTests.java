@@ -31,6 +31,7 @@ public final class PromiseTests {
         rows();
         plainOnes();
         keeps();
+        keepsOfNoRun();
         keepsInAnyOrder();
         allFull();
         System.out.println("PromiseTests: " + right + " answers as due, " + wrong + " not");
@@ -871,11 +872,24 @@ public final class PromiseTests {
         x.pattern(-2, 1, 6);
         x.optional(1, 0);
         due("15: one that found none binds nothing", x.keeps(), true);
-        x = withTriples(1, 0, 5);
+    }
+
+    private static void keepsOfNoRun() {
+        JoinOrder x = withTriples(1, 0, 5);
         x.pattern(-1, 1, 5);
-        due("15: no run, and no plain rows", x.keeps(), true);
+        due("15: no run, and no plain rows", x.plain(), 0);
+        due("15: no run, and no plain rows", x.keeps(), false);
+        x.plan();
+        due("15: a plan is no run", x.keeps(), false);
+        due("15: a run without rows", x.run(), 0);
+        due("15: a run without rows", x.keeps(), true);
         x.triple(1, 1, 5);
+        due("15: a run without rows, and a plain row", x.keeps(), false);
+        x = withTriples(1, 0, 5);
+        x.pattern(-1, 0, 5);
         due("15: no run, and a plain row", x.keeps(), false);
+        x.run();
+        due("15: a run of another object", new JoinOrder().keeps(), false);
     }
 
     private static void keepsInAnyOrder() {
