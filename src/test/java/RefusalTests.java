@@ -67,7 +67,7 @@ public final class RefusalTests {
                 seen.append(' ').append(byOptional ? x.optional(j, i) : x.hint(i, j));
             }
         }
-        seen.append(" triple ").append(x.triple(29, 30, 31));
+        seen.append(" triple ").append(x.triple(15, 4, 15)).append(' ').append(x.triple(29, 30, 31));
         seen.append(" pattern ").append(x.pattern(-1, 31, -2));
         seen.append(" filter ").append(x.filter(-1, 1, 30, true));
         seen.append(" plan ").append(x.plan());
@@ -94,12 +94,12 @@ public final class RefusalTests {
     }
 
     /**
-     * PATTERNS 0, 1, 2 REQUIRED with a HINT, 3 and 4 OPTIONAL, 5 told behind the run, so that what stands of the last run
-     * is not what a new one would find.
+     * PATTERNS 0, 1, 2 REQUIRED with a HINT, 3 and 4 OPTIONAL, of which one ROW finds both, the other none. 5 is told
+     * behind the run, so that what stands of the last run is not what a new one would find.
      */
     private static JoinOrder middle() {
         JoinOrder x = new JoinOrder();
-        int[] parts = {1, 0, 2, 3, 0, 2, 2, 0, 4, 2, 0, 5, 4, 1, 6, 5, 1, 7, 1, 1, 8, 8, 1, 9, 3, 1, 10};
+        int[] parts = {1, 0, 2, 3, 0, 2, 2, 0, 4, 2, 0, 5, 4, 1, 6, 5, 1, 7, 1, 1, 8, 8, 1, 9, 30, 1, 10};
         for (int i = 0; i < parts.length; i += 3) {
             x.triple(parts[i], parts[i + 1], parts[i + 2]);
         }
@@ -179,7 +179,9 @@ public final class RefusalTests {
     private static void statesAreAsNamed() {
         DUE.sentence("Tests", "the objects that the refused calls are made on");
         JoinOrder x = middle();
-        DUE.answer("middle: a ROW stands", x.row(0, 0), -2);
+        DUE.answer("middle: two ROWS stand", x.row(1, 0), -2);
+        DUE.answer("middle: the first found 4", x.row(0, -6), 9);
+        DUE.answer("middle: the second did not find 3", x.row(1, -5), -1);
         DUE.answer("middle: five steps stand", x.step(4, 0), 4);
         DUE.answer("middle: no sixth", x.step(5, 0), -1);
         DUE.answer("middle: keeps()", x.keeps(), false);
